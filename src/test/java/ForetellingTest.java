@@ -6,6 +6,8 @@ final class ForetellingTest {
         horizon();
         emptying();
         bestQuota();
+        greatestQuota();
+        soonerByOne();
         beyondTheEnd();
         Due.end();
     }
@@ -116,6 +118,78 @@ final class ForetellingTest {
         Due.is("the quota of today does not count", x.bestQuota(4, 0), 5);
         Due.is("nothing has changed", x.digest(), before);
         Due.is("with quota 1", x.foretell(5), 10);
+    }
+
+    private static void greatestQuota() {
+        RoomKeeper x = new RoomKeeper();
+        x.setRule(1, 20);
+        x.setRule(0, 100);
+        x.setCapacity(0, 2);
+        x.request(0, 0, 90);
+        for (int i = 0; i < 17; i++) {
+            x.request(1, 0, 9);
+            x.leave(1);
+        }
+        x.request(1, 0, 9);
+        Due.is("19 entries", x.count(6), 19);
+        x.request(2, 0, 9);
+        x.request(3, 1, 9);
+        Due.is("only the greatest quota lets it in at 9", x.bestQuota(2, 0), 20);
+        Due.is("at 9", x.bestQuota(2, 1), 9);
+        x.setRule(1, 19);
+        Due.is("with 19 it waits for room 1", x.foretell(2), 99);
+    }
+
+    private static void soonerByOne() {
+        RoomKeeper x = new RoomKeeper();
+        x.setCapacity(0, 2);
+        x.request(0, 0, 5);
+        x.request(1, 0, 4);
+        x.request(2, 0, 9);
+        x.setShare(1, 9);
+        x.request(3, 1, 1);
+        x.setRule(1, 2);
+        Due.is("with quota 2 member 2 waits for member 0 and room 1", x.foretell(2), 6);
+        Due.is("quota 3", x.bestQuota(2, 0), 3);
+        Due.is("at 4", x.bestQuota(2, 1), 4);
+        x.withdraw(3);
+        x.request(3, 0, 9);
+        x.request(4, 1, 9);
+        x.setRule(1, 20);
+        Due.is("member 3 enters with member 0's departure", x.foretell(3), 5);
+        Due.is("that takes quota 4", x.bestQuota(3, 0), 4);
+        Due.is("at 5", x.bestQuota(3, 1), 5);
+        RoomKeeper y = new RoomKeeper();
+        y.setCapacity(0, 2);
+        y.request(0, 0, 2);
+        y.request(1, 0, 2);
+        y.request(2, 0, 9);
+        y.request(3, 1, 1);
+        Due.is("without the quota at 2, with it at 3 behind room 1", y.bestQuota(2, 0), 1);
+        Due.is("room 0 is emptied at once and room 1 goes first, whatever the quota", y.bestQuota(2, 1), 3);
+        y.collapse(0);
+        y.setRule(2, 3);
+        // With quota 1 or 2 the door is closed at 2, room 1 is opened at 3 and room 0 again at 4.
+        Due.is("quota 3", y.bestQuota(2, 0), 3);
+        Due.is("at 2", y.bestQuota(2, 1), 2);
+        y.setCapacity(0, 3);
+        Due.is("in the next tick", y.bestQuota(2, 1), 1);
+        Due.is("quota 3", y.bestQuota(2, 0), 3);
+        RoomKeeper z = new RoomKeeper();
+        z.setCapacity(0, 2);
+        z.request(0, 0, 3);
+        z.request(1, 0, 2);
+        z.request(2, 0, 3);
+        z.request(3, 0, 9);
+        z.request(4, 1, 1);
+        // With quota 1 or 2 room 1 is opened at 3 and room 0 at 4; with quota 3 the door is closed at 3 and member 2
+        // goes at 5, so that room 1 is opened then; with quota 4 member 3 comes in at 3.
+        Due.is("quota 4 is sooner by one than quota 1", z.bestQuota(3, 0), 4);
+        Due.is("at 3", z.bestQuota(3, 1), 3);
+        z.setRule(1, 1);
+        Due.is("quota 1", z.foretell(3), 4);
+        z.setRule(1, 3);
+        Due.is("quota 3", z.foretell(3), 6);
     }
 
     private static void beyondTheEnd() {

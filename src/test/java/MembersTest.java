@@ -10,6 +10,8 @@ final class MembersTest {
         leastScoreIsNext();
         impatientAreNext();
         scoreRisesToBase();
+        scoreStaysWithQueue();
+        impatienceCountsFromRequest();
         withdrawing();
         leaving();
         collapsing();
@@ -218,6 +220,41 @@ final class MembersTest {
         Due.is("from 280 to the base", y.room(1, 2), 2520);
     }
 
+    private static void scoreStaysWithQueue() {
+        RoomKeeper x = new RoomKeeper();
+        x.setRule(0, 2);
+        x.request(0, 0, 3);
+        x.request(1, 0, 3);
+        x.request(2, 0, 3);
+        x.request(3, 0, 3);
+        x.request(4, 1, 3);
+        x.pass(3);
+        Due.is("the impatient one opens room 0 again", x.count(4), 0);
+        Due.is("with the greater score as base", x.count(7), 2520);
+        x.request(5, 1, 3);
+        Due.is("a room with a queue keeps its score", x.room(1, 2), 0);
+        x.withdraw(4);
+        x.withdraw(5);
+        x.request(5, 1, 3);
+        Due.is("with an empty queue it rises", x.room(1, 2), 2520);
+    }
+
+    private static void impatienceCountsFromRequest() {
+        RoomKeeper x = new RoomKeeper();
+        x.pass(100);
+        x.request(0, 0, 50);
+        x.request(1, 1, 50);
+        Due.is("just come", x.count(9), 0);
+        x.pass(19);
+        Due.is("after 19", x.count(9), 0);
+        Due.is("enters", x.request(2, 0, 50), 2);
+        x.pass(1);
+        Due.is("after 20", x.count(9), 1);
+        Due.is("does not enter", x.request(3, 0, 50), 1);
+        Due.is("waited 20", x.withdraw(1), 20);
+        Due.is("waited 0", x.withdraw(3), 0);
+    }
+
     private static void withdrawing() {
         RoomKeeper x = new RoomKeeper();
         x.setRule(1, 1);
@@ -250,7 +287,10 @@ final class MembersTest {
         x.request(1, 2, 20);
         x.pass(6);
         Due.is("leave returns the ticks left", x.leave(0), 14);
-        Due.is("it is away", x.member(0, 0), 0);
+        int[] away = {0, -1, -1, 0, -1};
+        for (int what = 0; what < away.length; what++) {
+            Due.is("it is away: member(0, " + what + ")", x.member(0, what), away[what]);
+        }
         Due.is("the keeper acts", x.member(1, 0), 2);
         Due.event(x, 2, 6, 2, 0, 3);
         Due.event(x, 3, 6, 0, -1, 2);

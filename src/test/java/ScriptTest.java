@@ -71,6 +71,12 @@ final class ScriptTest {
         Due.is("time", x.count(0), 0);
         Due.is("units of the latest script", x.count(14), 1);
         Due.is("the text stays", x.count(13), 4);
+        Due.text(x, "2(2(x");
+        Due.is("a fault within parentheses", x.run(), -2004);
+        Due.text(x, "t5;");
+        Due.is("a fault is forgotten with its text", x.run(), 1);
+        Due.text(x, "1(1(1(1())))");
+        Due.is("and so is the depth", x.run(), 0);
     }
 
     private static int good(RoomKeeper x, String text, int good, int units, int time) {

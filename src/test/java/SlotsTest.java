@@ -47,7 +47,9 @@ final class SlotsTest {
         x.setRule(0, 50);
         x.setRule(1, 17);
         x.setRule(2, 3);
-        Due.text(x, "rf3,9;t30;rg4,2;rh4,7;t1;cg;ri0,5;");
+        Due.text(x, "rf3,9;t50;rg4,2;rh4,7;t1;cg;ri0,5;");
+        x.run();
+        Due.text(x, "lh;t9;20(rk3,1;lk;)");
         x.run();
         x.clear();
     }
