@@ -11,6 +11,8 @@ public final class RoomKeeper {
     private static final int MOST_CAPACITY = 8, MOST_SHARE = 9;
     private static final int MOST_PATIENCE = 100, MOST_QUOTA = 20, MOST_ATTENTION = 50;
     private static final int MOST_TICKS = 999, LAST_TIME = 20000, FORESIGHT = 500;
+    /** More ticks than any call lets pass. */
+    private static final int NEVER = 1000000;
     private static final int WHOLE_SHARE = 2520;
     private static final int FIRST_HASH = 549, FIRST_FAULT = -2000;
     private static final int MEMBER_PROPERTIES = 5, ROOM_PROPERTIES = 10, EVENT_PARTS = 4, NUMBERS = 15;
@@ -581,10 +583,10 @@ public final class RoomKeeper {
         private int ticksToChange(int m) {
             Member member = members[m];
             switch (member.state) {
-                case WAITING: return isImpatient(m) ? MOST_TICKS : member.since + rules[PATIENCE] - time;
+                case WAITING: return isImpatient(m) ? NEVER : member.since + rules[PATIENCE] - time;
                 case INSIDE: return member.ticks;
                 case COLLAPSED: return member.since + rules[ATTENTION] - time;
-                default: return MOST_TICKS;
+                default: return NEVER;
             }
         }
 

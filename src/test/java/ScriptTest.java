@@ -57,6 +57,8 @@ final class ScriptTest {
             blanks.append(' ');
         }
         fault(blanks + "t", 100);
+        fault(blanks.substring(1) + "wa", 100);
+        fault(blanks.substring(1) + "t1", 100);
         fault(blanks + "x", 99);
         fault("1(" + blanks.substring(2), 99);
     }
