@@ -559,8 +559,9 @@ public final class RoomKeeper {
         }
 
         /**
-         * Right after a tick, lets those pass at once in which nobody leaves, is removed or becomes impatient: in them
-         * the keeper, who has just acted, finds nothing to do either. Returns how many they were.
+         * Right after a tick, lets those pass at once in which nobody leaves or is removed. In them the keeper, who has
+         * just acted, finds nothing to do either: nobody can come in, and so no door is closed, however impatient
+         * others become. Returns how many they were.
          */
         int skipQuietTicks(int most) {
             int quiet = most;
@@ -583,7 +584,6 @@ public final class RoomKeeper {
         private int ticksToChange(int m) {
             Member member = members[m];
             switch (member.state) {
-                case WAITING: return isImpatient(m) ? NEVER : member.since + rules[PATIENCE] - time;
                 case INSIDE: return member.ticks;
                 case COLLAPSED: return member.since + rules[ATTENTION] - time;
                 default: return NEVER;

@@ -2,8 +2,14 @@
 final class Due {
     private static int wrong = 0;
     private static int compared = 0;
+    private static String sentence = "";
 
     private Due() {
+    }
+
+    /** What follows tests these words of the document; SentencesTest looks whether they stand there. */
+    static void says(String words) {
+        sentence = words;
     }
 
     static void is(String what, long got, long want) {
@@ -11,7 +17,14 @@ final class Due {
         if (got != want) {
             wrong++;
             System.out.println(what + ": answered " + got + ", due is " + want);
+            if (!sentence.isEmpty()) {
+                System.out.println("    the document: " + sentence);
+            }
         }
+    }
+
+    static void isTrue(String what, boolean holds) {
+        is(what, holds ? 1 : 0, 1);
     }
 
     /** Types a text on a cleared keeper. */
@@ -33,6 +46,29 @@ final class Due {
         is("kind of event " + i, x.event(i, 1), kind);
         is("member of event " + i, x.event(i, 2), member);
         is("room of event " + i, x.event(i, 3), room);
+    }
+
+    /** All properties of a member, from 0 on. */
+    static void member(RoomKeeper x, int m, int... want) {
+        for (int what = 0; what < want.length; what++) {
+            is("member(" + m + ", " + what + ")", x.member(m, what), want[what]);
+        }
+    }
+
+    /** All properties of a room, from 0 on. */
+    static void room(RoomKeeper x, int r, int... want) {
+        for (int what = 0; what < want.length; what++) {
+            is("room(" + r + ", " + what + ")", x.room(r, what), want[what]);
+        }
+    }
+
+    /** A whole queue, and nobody behind it. */
+    static void queue(RoomKeeper x, int r, int... want) {
+        for (int i = 0; i < want.length; i++) {
+            is("queue(" + r + ", " + i + ")", x.queue(r, i), want[i]);
+        }
+        is("behind queue " + r, x.queue(r, want.length), -1);
+        is("length of queue " + r, x.room(r, 4), want.length);
     }
 
     static void end() {

@@ -34,8 +34,8 @@ final class LanguageTest {
     }
 
     private static void words(String code) {
-        String[] patterns = {"\\bthrow\\b", "\\btry\\b", "\\bcatch\\b", "\\bsynchronized\\b", "\\bassert\\b", "->", "::",
-            "\\bimport\\b", "\\bpackage\\b", "Exact\\b", "\\bprotected\\b", "\\bhashCode\\b", "\\btoString\\b",
+        String[] patterns = {"\\bthrow\\b", "\\btry\\b", "\\bcatch\\b", "\\bsynchronized\\b", "\\bassert\\b", "->",
+            "::", "\\bimport\\b", "\\bpackage\\b", "Exact\\b", "\\bprotected\\b", "\\bhashCode\\b", "\\btoString\\b",
             "[^\\x00-\\x7f]", "\\bwhile \\(true\\)", "for \\(;;\\)", "\\bstatic \\{"};
         for (String pattern : patterns) {
             absent(code, pattern);

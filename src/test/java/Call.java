@@ -1,0 +1,4 @@
+/** A call on a keeper. */
+interface Call {
+    int on(RoomKeeper x);
+}
