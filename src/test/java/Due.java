@@ -71,6 +71,39 @@ final class Due {
         is("length of queue " + r, x.room(r, 4), want.length);
     }
 
+    /** The hash that the keeper's own answers make, with the text that was typed. */
+    static long digest(RoomKeeper x, String text) {
+        long hash = 549;
+        for (int what = 0; what <= 14; what++) {
+            hash = next(hash, x.count(what));
+        }
+        for (int m = 0; m < 12; m++) {
+            hash = next(hash, x.member(m, 0), x.member(m, 1), x.member(m, 2), x.member(m, 3), x.member(m, 4));
+        }
+        for (int r = 0; r < 5; r++) {
+            for (int what = 0; what <= 9; what++) {
+                hash = next(hash, x.room(r, what));
+            }
+        }
+        int kept = x.count(11);
+        for (int i = 0; i < kept; i++) {
+            hash = next(hash, x.event(i, 0), x.event(i, 1), x.event(i, 2), x.event(i, 3));
+        }
+        hash = next(hash, x.unfairness(), x.empties());
+        for (int i = 0; i < text.length(); i++) {
+            hash = next(hash, text.charAt(i));
+        }
+        return hash;
+    }
+
+    static long next(long hash, int... numbers) {
+        long then = hash;
+        for (int number : numbers) {
+            then = 31 * then + number;
+        }
+        return then;
+    }
+
     static void end() {
         System.out.println(compared + " answers compared, " + wrong + " not as due");
         if (wrong != 0 || compared == 0) {

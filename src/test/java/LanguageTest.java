@@ -7,6 +7,7 @@ import java.nio.file.Files;
 import java.nio.file.Path;
 import java.nio.file.Paths;
 import java.util.HashSet;
+import java.util.Random;
 import java.util.Set;
 import java.util.regex.Matcher;
 import java.util.regex.Pattern;
@@ -21,6 +22,7 @@ final class LanguageTest {
         methods(code);
         members();
         objects();
+        neverThrows();
         Due.end();
     }
 
@@ -124,6 +126,62 @@ final class LanguageTest {
             x.pass(3);
             x.digest();
             x.restore(i % 2);
+        }
+    }
+
+    /** More than 512 calls with any numbers on an object: their answers are free then, but none may throw. */
+    private static void neverThrows() {
+        RoomKeeper x = new RoomKeeper();
+        Random random = new Random(549);
+        int thrown = 0;
+        for (int i = 0; i < 300000; i++) {
+            x = i % 1500 == 0 ? new RoomKeeper() : x;
+            int kind = random.nextInt(23), a = any(random), b = any(random), c = any(random);
+            try {
+                anyCall(x, kind, a, b, c);
+            } catch (RuntimeException e) {
+                thrown++;
+                System.out.println("call " + kind + " with " + a + ", " + b + ", " + c + " threw " + e);
+            }
+        }
+        Due.is("calls that threw", thrown, 0);
+    }
+
+    private static int any(Random random) {
+        int kind = random.nextInt(20);
+        if (kind == 0) {
+            return random.nextInt();
+        }
+        if (kind == 1) {
+            return random.nextBoolean() ? Integer.MIN_VALUE : Integer.MAX_VALUE;
+        }
+        return kind < 4 ? random.nextInt(1200) - 100 : random.nextInt(14) - 1;
+    }
+
+    private static long anyCall(RoomKeeper x, int kind, int a, int b, int c) {
+        switch (kind) {
+            case 0: return x.setCapacity(a, b);
+            case 1: return x.setShare(a, b);
+            case 2: return x.setRule(a, b);
+            case 3: return x.withdraw(a);
+            case 4: return x.leave(a);
+            case 5: return x.collapse(a);
+            case 6: return x.pass(a);
+            case 7: return x.member(a, b);
+            case 8: return x.room(a, b);
+            case 9: return x.queue(a, b);
+            case 10: return x.event(a, b);
+            case 11: return x.unfairness();
+            case 12: return x.foretell(a);
+            case 13: return x.empties();
+            case 14: return x.bestQuota(a, b);
+            case 15: return x.type("rwlctabkl014,;( )".charAt(Math.floorMod(a * 31 + b, 17)));
+            case 16: return c == 5 ? x.clear() : x.type(a);
+            case 17: return x.run();
+            case 18: return x.save(a);
+            case 19: return c == 5 ? x.restore(a) : x.count(b);
+            case 20: return x.digest();
+            default: return x.request(a, b, c);
         }
     }
 }

@@ -311,25 +311,18 @@ final class SlotEdgesTest {
         Due.is("and is no longer impatient", x.count(9), 3);
     }
 
-    private static long next(long hash, int... numbers) {
-        for (int number : numbers) {
-            hash = 31 * hash + number;
-        }
-        return hash;
-    }
-
     private static void digestAtFirst() {
         Due.says("Returns a hash. It is 549 at first; for each of the following numbers, in this order, it becomes 31 "
             + "times itself plus the number (long arithmetic with overflow): count(0) to count(14); for each member "
             + "member(m, 0) to member(m, 4); for each room room(r, 0) to room(r, 9);");
-        long hash = next(549, 0, 20, 5, 10, -1, 0, 0, 0, 0, 0, 0, 0, 0, 0, 0);
+        long hash = Due.next(549, 0, 20, 5, 10, -1, 0, 0, 0, 0, 0, 0, 0, 0, 0, 0);
         for (int m = 0; m < 12; m++) {
-            hash = next(hash, 0, -1, -1, 0, -1);
+            hash = Due.next(hash, 0, -1, -1, 0, -1);
         }
         for (int r = 0; r < 5; r++) {
-            hash = next(hash, 3, 1, 0, 0, 0, 0, 0, 0, 0, 0);
+            hash = Due.next(hash, 3, 1, 0, 0, 0, 0, 0, 0, 0, 0);
         }
-        hash = next(hash, 0, 0);
+        hash = Due.next(hash, 0, 0);
         RoomKeeper x = new RoomKeeper();
         Due.is("a new object: no event and no byte", x.digest(), hash);
         Due.is("it is not changed by being told", x.digest(), hash);
@@ -349,47 +342,22 @@ final class SlotEdgesTest {
             }
             Scenes.type(x, "t1");
             Due.is("events", x.count(12), events);
-            Due.is("digest with " + events + " events", x.digest(), toldDigest(x, "t1"));
+            Due.is("digest with " + events + " events", x.digest(), Due.digest(x, "t1"));
         }
         RoomKeeper y = Scenes.busy();
-        Due.is("digest", y.digest(), toldDigest(y, "t5;x"));
-        y.clear();
+        Due.is("digest", y.digest(), Due.digest(y, "t5;x"));
+        RoomKeeper z = Scenes.busy();
+        z.clear();
         String most = Scenes.repeated("\0~\177 ;", 20);
-        Scenes.type(y, most);
-        Due.is("with a full text", y.digest(), toldDigest(y, most));
-        y.request(10, 4, 999);
-        y.leave(0);
-        y.leave(2);
-        y.setRule(2, 1);
-        y.pass(9);
-        Due.is("empties() is NONE", y.empties(), -1);
-        Due.isTrue("unfairness() is not 0", y.unfairness() > 0);
-        Due.is("digest", y.digest(), toldDigest(y, most));
-    }
-
-    private static long toldDigest(RoomKeeper x, String text) {
-        long hash = 549;
-        for (int what = 0; what <= 14; what++) {
-            hash = next(hash, x.count(what));
-        }
-        for (int m = 0; m < 12; m++) {
-            for (int what = 0; what <= 4; what++) {
-                hash = next(hash, x.member(m, what));
-            }
-        }
-        for (int r = 0; r < 5; r++) {
-            for (int what = 0; what <= 9; what++) {
-                hash = next(hash, x.room(r, what));
-            }
-        }
-        for (int i = 0; i < x.count(11); i++) {
-            hash = next(hash, x.event(i, 0), x.event(i, 1), x.event(i, 2), x.event(i, 3));
-        }
-        hash = next(hash, x.unfairness(), x.empties());
-        for (int i = 0; i < text.length(); i++) {
-            hash = next(hash, text.charAt(i));
-        }
-        return hash;
+        Scenes.type(z, most);
+        z.request(10, 4, 999);
+        z.leave(0);
+        z.leave(2);
+        z.setRule(2, 1);
+        z.pass(9);
+        Due.is("empties() is NONE", z.empties(), -1);
+        Due.isTrue("unfairness() is not 0", z.unfairness() > 0);
+        Due.is("digest with these and a full text", z.digest(), Due.digest(z, most));
     }
 
     /** Numbers worked out with whole numbers of any length and cut to 64 bits, not with the same long arithmetic. */

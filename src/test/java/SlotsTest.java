@@ -112,43 +112,18 @@ final class SlotsTest {
         Due.is("base", x.count(7), 630);
     }
 
-    private static long digest(RoomKeeper x, String text) {
-        long hash = 549;
-        for (int what = 0; what <= 14; what++) {
-            hash = hash * 31 + x.count(what);
-        }
-        for (int m = 0; m < 12; m++) {
-            for (int what = 0; what <= 4; what++) {
-                hash = hash * 31 + x.member(m, what);
-            }
-        }
-        for (int r = 0; r < 5; r++) {
-            for (int what = 0; what <= 9; what++) {
-                hash = hash * 31 + x.room(r, what);
-            }
-        }
-        for (int i = 0; i < x.count(11); i++) {
-            for (int what = 0; what <= 3; what++) {
-                hash = hash * 31 + x.event(i, what);
-            }
-        }
-        hash = hash * 31 + x.unfairness();
-        hash = hash * 31 + x.empties();
-        for (int i = 0; i < text.length(); i++) {
-            hash = hash * 31 + text.charAt(i);
-        }
-        return hash;
-    }
-
     private static void digests() {
         RoomKeeper x = new RoomKeeper();
-        Due.is("digest of a new object", x.digest(), digest(x, ""));
+        Due.is("digest of a new object", x.digest(), Due.digest(x, ""));
         x = busy();
-        Due.is("digest of a busy keeper", x.digest(), digest(x, ""));
+        Due.is("digest of a busy keeper", x.digest(), Due.digest(x, ""));
+        x = busy();
         Due.text(x, "50(ra1,1;t1;)");
-        Due.is("digest with a text", x.digest(), digest(x, "50(ra1,1;t1;)"));
+        Due.is("digest with a text", x.digest(), Due.digest(x, "50(ra1,1;t1;)"));
+        x = busy();
+        Due.text(x, "50(ra1,1;t1;)");
         x.run();
-        Due.is("digest with a full log", x.digest(), digest(x, "50(ra1,1;t1;)"));
+        Due.is("digest with a full log", x.digest(), Due.digest(x, "50(ra1,1;t1;)"));
         Due.is("digest twice", x.digest(), x.digest());
     }
 }
