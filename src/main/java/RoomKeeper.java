@@ -117,12 +117,13 @@ public final class RoomKeeper {
         if (!isWithin(ticks, 1, MOST_TICKS)) {
             return BAD;
         }
-        if (now.time + ticks > LAST_TIME) {
+        int end = now.time + ticks;
+        if (end > LAST_TIME) {
             return FULL;
         }
-        for (int passed = 1; passed <= ticks; passed++) {
+        for (int i = 0; i < ticks && now.time < end; i++) {
             now.tick();
-            passed += now.skipQuietTicks(ticks - passed);
+            now.skipQuietTicks(end);
         }
         return now.time;
     }
@@ -203,12 +204,13 @@ public final class RoomKeeper {
             return 0;
         }
         trial.copyFrom(now);
-        for (int passed = 1; passed <= FORESIGHT; passed++) {
+        int end = now.time + FORESIGHT;
+        for (int i = 0; i < FORESIGHT && trial.time < end; i++) {
             trial.tick();
             if (trial.isDeserted()) {
-                return passed;
+                return trial.time - now.time;
             }
-            passed += trial.skipQuietTicks(FORESIGHT - passed);
+            trial.skipQuietTicks(end);
         }
         return NONE;
     }
@@ -356,12 +358,13 @@ public final class RoomKeeper {
     private int ticksUntilEntry(int member, int quota, int foresight) {
         trial.copyFrom(now);
         trial.rules[QUOTA] = quota;
-        for (int passed = 1; passed <= foresight; passed++) {
+        int end = now.time + foresight;
+        for (int i = 0; i < foresight && trial.time < end; i++) {
             trial.tick();
             if (trial.members[member].state == INSIDE) {
-                return passed;
+                return trial.time - now.time;
             }
-            passed += trial.skipQuietTicks(foresight - passed);
+            trial.skipQuietTicks(end);
         }
         return NONE;
     }
@@ -561,15 +564,15 @@ public final class RoomKeeper {
         /**
          * Right after a tick, lets those pass at once in which nobody leaves or is removed. In them the keeper, who has
          * just acted, finds nothing to do either: nobody can come in, and so no door is closed, however impatient
-         * others become. Returns how many they were.
+         * others become. The time does not go beyond the end that is given.
          */
-        int skipQuietTicks(int most) {
-            int quiet = most;
+        void skipQuietTicks(int end) {
+            int quiet = end - time;
             for (int m = 0; m < MEMBERS; m++) {
                 quiet = Math.min(quiet, ticksToChange(m) - 1);
             }
             if (quiet <= 0) {
-                return 0;
+                return;
             }
             time += quiet;
             for (int m = 0; m < MEMBERS; m++) {
@@ -578,7 +581,6 @@ public final class RoomKeeper {
                     rooms[members[m].room].ticksInside += quiet;
                 }
             }
-            return quiet;
         }
 
         private int ticksToChange(int m) {

@@ -1,8 +1,26 @@
+import java.util.concurrent.TimeUnit;
+
 /** Compares answers with those that are due, and ends a test. */
 final class Due {
     private static int wrong = 0;
     private static int compared = 0;
     private static String sentence = "";
+    private static final long MOST_MINUTES = 10;
+
+    /** A call that does not end must fail its test, which is over in seconds otherwise. */
+    static {
+        Thread watch = new Thread(() -> {
+            try {
+                TimeUnit.MINUTES.sleep(MOST_MINUTES);
+            } catch (InterruptedException e) {
+                return;
+            }
+            System.out.println("not at its end after " + MOST_MINUTES + " minutes; the document: " + sentence);
+            Runtime.getRuntime().halt(1);
+        });
+        watch.setDaemon(true);
+        watch.start();
+    }
 
     private Due() {
     }

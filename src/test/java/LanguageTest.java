@@ -20,6 +20,7 @@ final class LanguageTest {
         String code = withoutComments(Files.readString(SOURCE));
         words(code);
         methods(code);
+        loops(code);
         members();
         objects();
         neverThrows();
@@ -66,6 +67,33 @@ final class LanguageTest {
                 start = -1;
             }
         }
+    }
+
+    /** Rule 9: the end of a loop is seen from its head, if it counts up to a bound and its body leaves the counter. */
+    private static void loops(String code) {
+        Matcher heads = Pattern.compile("\\bfor \\((.*)\\) \\{\n").matcher(code);
+        int loops = 0;
+        while (heads.find()) {
+            loops++;
+            Matcher head = Pattern.compile("int (\\w+) = [^;]+; \\1 <=? [^;]+; \\1\\+\\+").matcher(heads.group(1));
+            boolean counts = head.matches();
+            Due.isTrue("counts up to a bound: " + heads.group(), counts);
+            String counter = counts ? head.group(1) : "";
+            absent(body(code, heads.end()), "\\b" + counter + "(\\+\\+|--| [-+*/%]?= )");
+        }
+        Due.is("loops that were looked at", loops, code.split("\\bfor\\b").length - 1);
+        absent(code, "\\bdo \\{");
+    }
+
+    /** What stands up to the brace that closes the one before the place. */
+    private static String body(String code, int start) {
+        int open = 1;
+        int at = start;
+        while (at < code.length() && open > 0) {
+            open += code.charAt(at) == '{' ? 1 : code.charAt(at) == '}' ? -1 : 0;
+            at++;
+        }
+        return code.substring(start, at);
     }
 
     private static void members() {

@@ -10,23 +10,27 @@ import java.util.stream.Collectors;
 import java.util.stream.Stream;
 
 /**
- * All promises: the words that tests quote with Due.says stand in the document, and no words of the document's
- * description and promises are left that no test quotes, but for those below.
+ * All promises: the words that tests quote with Due.says stand in the document, and no words of the document are left
+ * that no test quotes, but for those below.
  */
 final class SentencesTest {
     private static final Path DOCUMENT = Paths.get("../shared/DOC.md");
     private static final Path TESTS = Paths.get("src/test/java");
-    /** Headings within the promises, and words that only lead to what stands behind them. */
+    /** Headings within the text, words that only lead to what stands behind them, and what is not promised. */
     private static final String[] NOT_TESTED = {"Errors.", "Members and rooms.", "Waiting.", "Rooms in use.", "Ticks.",
         "Log and statistics.", "Scripts.", "To act means, as long as something applies:",
         "The constants:", "The constructor and the methods follow, a promise each: the signature, then what it does.",
-        "---- settings", "---- what members do", "---- what is told", "---- scripts", "---- slots, numbers"};
+        "---- settings", "---- what members do", "---- what is told", "---- scripts", "---- slots, numbers",
+        "How the state is held inside the object is free, as are the speed of each call, the text of toString and the "
+        + "behaviour of equals and hashCode. Use of one object from several threads at once is not promised to be "
+        + "safe. Nothing is promised beyond the answers and state changes described above, and nothing about an object "
+        + "after its 512th call."};
 
     public static void main(String[] args) throws IOException {
         String document = words(Files.readString(DOCUMENT));
         boolean[] isQuoted = new boolean[document.length()];
         for (String part : NOT_TESTED) {
-            mark(document, part, isQuoted);
+            Due.isTrue("stands in the document: " + part, mark(document, part, isQuoted));
         }
         for (String quote : quotes()) {
             Due.isTrue("stands in the document: " + quote, mark(document, quote, isQuoted));
@@ -37,14 +41,9 @@ final class SentencesTest {
         Due.end();
     }
 
-    /** From the limit of 512 calls on; without the face, the headings and the signatures, which FaceTest tests. */
+    /** All but the face, the headings and the signatures, which FaceTest tests. */
     private static String words(String document) {
-        int start = document.indexOf("An object is used");
-        int end = document.indexOf("## Not promised");
-        if (start < 0 || end < start) {
-            return "";
-        }
-        String text = document.substring(start, end).replaceAll("(?s)```.*?```", "");
+        String text = document.replaceAll("(?s)```.*?```", "");
         return text.replaceAll("(?m)^#.*$", "").replaceAll("(?m)^`[^`]*`$", "").replaceAll("\\s+", " ").trim();
     }
 
