@@ -1,5 +1,4 @@
 import java.io.IOException;
-import java.io.PrintStream;
 import java.net.URL;
 import java.net.URLClassLoader;
 import java.nio.file.Files;
@@ -12,7 +11,6 @@ import java.util.regex.Matcher;
 import java.util.regex.Pattern;
 import java.util.stream.Collectors;
 import java.util.stream.Stream;
-import javax.tools.ToolProvider;
 
 /** README.md: its examples are Java that answers as they say, and its tables name all calls and all tests. */
 final class ReadmeTest {
@@ -64,8 +62,8 @@ final class ReadmeTest {
     private static void compareExamples(Path place, String code, int examples) throws Exception {
         Path file = place.resolve("Examples.java");
         Files.writeString(file, code);
-        int failed = ToolProvider.getSystemJavaCompiler().run(null, new PrintStream(System.out), System.out, "-cp",
-            System.getProperty("java.class.path"), "-d", place.toString(), file.toString());
+        int failed = new ProcessBuilder("javac", "-cp", System.getProperty("java.class.path"), "-d", place.toString(),
+            file.toString()).inheritIO().start().waitFor();
         Due.is("the examples compile", failed, 0);
         if (failed != 0) {
             return;
